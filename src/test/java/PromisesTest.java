@@ -14,6 +14,7 @@ public final class PromisesTest {
         questions();
         witnesses();
         asking();
+        askingTooOften();
         hearing();
         knowing();
         turning();
@@ -315,6 +316,26 @@ public final class PromisesTest {
         due("refusals", refusals(x), 400000);
     }
 
+    /** No run of 512 calls comes to this bound, but it is told. */
+    private static void askingTooOften() {
+        CHECK.about("promises 3, 7, the bound of ASKED");
+        JuryHearsAnswers x = told("q000;ww063;");
+        for (int i = 0; i < 998; i++) {
+            x.asks(0, 0);
+        }
+        due("the last but one", x.count(4), 998);
+        due("court()", tell(x, "a00;f0;a00;"), -2007);
+        due("nothing of it", x.count(4), 998);
+        due("asks(0, 0)", x.asks(0, 0), 0);
+        due("asked", x.count(4), 999);
+        due("asks(0, 0)", x.asks(0, 0), -6);
+        due("court()", tell(x, "a00;"), -2000);
+        due("asked", x.count(4), 999);
+        due("heard", x.heard(11, 3), 999);
+        due("answer(0, 0, 1)", x.answer(0, 0, 1), 1);
+        due("refusals", refusals(x), 1);
+    }
+
     private static void hearing() {
         CHECK.about("promise 8");
         JuryHearsAnswers x = told("f0;q000;q111;ww003;wl003;");
@@ -337,7 +358,9 @@ public final class PromisesTest {
         due("asks(0, 1)", x.asks(0, 1), 1);
         due("heard", x.count(3), 12);
         due("the first is dropped", x.heard(0, 3), 2);
+        due("its witness", x.heard(0, 0), 0);
         due("its question", x.heard(0, 1), 1);
+        due("its answer", x.heard(0, 2), 1);
         due("the next one's", x.heard(1, 1), 0);
         due("the last's asked", x.heard(11, 3), 13);
         due("the last's question", x.heard(11, 1), 1);
@@ -388,6 +411,7 @@ public final class PromisesTest {
         JuryHearsAnswers x = told("f0;q000;ww063;a00;a00;");
         due("empties()", x.empties(), 2);
         due("empties()", x.empties(), 0);
+        due("heard(0, 0)", x.heard(0, 0), -1);
         due("heard", x.count(3), 0);
         due("asked stays", x.count(4), 2);
         due("fits(0)", x.fits(0), 64);
@@ -419,6 +443,9 @@ public final class PromisesTest {
         answersBy(x, "rather by 0", 0, 1, 0, 2, 2, 0);
         x.turn(0, 5, 0);
         answersBy(x, "clerk", -1, 1, 1, 1, 1, 1);
+        due("whatever is so", x.next(1), 64);
+        due("a clerk's yes fits all", x.asks(0, 2) == 1 && x.fits(0) == 64 ? 1 : 0, 1);
+        x = told(FIVE + "ww003;");
         x.turn(0, 3, 1);
         answersBy(x, "forgetful, as the first", -1, 1, 1, 0, 2, 2);
         x.asks(0, 0);
@@ -578,6 +605,13 @@ public final class PromisesTest {
         due("next(0)", x.next(0), 1);
         due("next(1)", x.next(1), 32);
         // he forgets, were he asked next
+        x = told("q000;wf163;ww000;");
+        due("he doesn't yet", x.next(1), 32);
+        x.asks(0, 0);
+        x.empties();
+        due("now he does", x.next(1), 64);
+        x.turn(0, 3, 2);
+        due("nor by three", x.next(1), 32);
         x = told("q000;wf063;ww000;");
         due("next(0)", x.next(0), 0);
         due("next(1)", x.next(1), 64);
@@ -746,6 +780,8 @@ public final class PromisesTest {
         due("of several the least", x.talker(), 1);
         x.asks(2, 1);
         due("who said most", x.talker(), 2);
+        x = told("f0;q000;wl063;ww063;a00;");
+        due("the first alone", x.talker(), 0);
         x.empties();
         due("none has", x.talker(), -9);
     }
@@ -890,6 +926,8 @@ public final class PromisesTest {
         fraction("one nobody asks", x.drawn(0, 4, 5, 0), x.drawn(0, 4, 5, 1), 0, 1);
         x.asks(0, 0);
         fraction("it is sure now", x.drawn(0, 2, 0, 0), x.drawn(0, 2, 0, 1), 1, 1);
+        x = told("f0;q000;q011;q022;ww063;a00;");
+        fraction("the judge knows what was asked", x.drawn(0, 1, 0, 0), x.drawn(0, 1, 0, 1), 1, 1);
         x = told("q000;q011;q022;ww063;");
         fraction("two of three", x.drawn(0, 2, 0, 0), x.drawn(0, 2, 0, 1), 5, 9);
         x = told("q000;q011;q022;q100;ww063;");
